@@ -276,6 +276,8 @@ public final class SnapshotDeskPromises {
         run("16 live snapshots", "begin(0,0)=1", "number(0)=1", "begin(4,1)=1", "statement(4)=1", "begin(5,0)=1",
             "statement(5)=1", "commit(0)=1", "dead(1,1)=0", "statement(4)=2", "statement(5)=2", "dead(1,1)=0",
             "abort(4)=1", "dead(1,1)=1");
+        run("16 first session", "begin(0,1)=1", "statement(0)=1", "begin(1,0)=1", "number(1)=1", "commit(1)=1",
+            "dead(1,1)=0", "statement(0)=2", "dead(1,1)=0", "commit(0)=0", "dead(1,1)=1");
         run("16 last session", "begin(5,0)=1", "statement(5)=1", "begin(0,0)=1", "number(0)=1", "commit(0)=1",
             "dead(1,1)=0", "statement(5)=2", "dead(1,1)=1", "commit(5)=0", "dead(1,1)=1");
         run("16 no snapshot yet", "begin(5,1)=1", "begin(0,0)=1", "number(0)=1", "commit(0)=1", "dead(1,1)=1");
