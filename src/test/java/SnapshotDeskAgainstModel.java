@@ -9,11 +9,16 @@ import java.util.TreeSet;
 /**
  * Long runs of made-up calls, each answered by SnapshotDesk and by a model that keeps the document's
  * terms as sets (what belongs to a level, what a commit committed, what commits a snapshot has).
- * The seeds are fixed, so every run of this test makes the same calls.
+ * The seeds are fixed, so every run of this test makes the same calls. A third of the runs has calls of all
+ * kinds, a third goes to the last levels again and again, and a third commits often.
  */
 public final class SnapshotDeskAgainstModel {
     private static final int RUNS = 4000;
     private static final int CALLS = 512;
+    private static final int MIXED = 0;
+    private static final int DEEP = 1;
+    private static final int FLAVOURS = 3;
+    private static final int[] DEEP_KINDS = {2, 3, 3, 3, 3, 3, 4, 5};
     private static final int[] ODD = {-1, 6, 8, 4000, 4001, Integer.MIN_VALUE, Integer.MAX_VALUE};
 
     private static final class Level {
@@ -234,6 +239,9 @@ public final class SnapshotDeskAgainstModel {
 
     private static int wrong = 0;
     private static final boolean[][] SEEN = new boolean[16][8];
+    /** How often level k was released, and gone back to. */
+    private static final int[][] LEFT = new int[6][8];
+    private static int mostCommits = 0;
 
     public static void main(String[] args) {
         for (int run = 0; run < RUNS && wrong < 20; run++) {
@@ -250,16 +258,21 @@ public final class SnapshotDeskAgainstModel {
         Random random = new Random(seed);
         SnapshotDesk desk = new SnapshotDesk();
         Model model = new Model();
+        int flavour = seed % FLAVOURS;
         // Few sessions make deep transactions, many make snapshots that differ.
-        int sessions = 1 + random.nextInt(6);
+        int sessions = 1 + random.nextInt(flavour == DEEP ? 2 : 6);
         for (int call = 0; call < CALLS; call++) {
-            int kind = pickKind(random);
             int s = pick(random, 0, sessions - 1);
-            int[] a = {pickFirst(random, kind, model), pick(random, 0, 4), pick(random, 0, model.last + 1),
+            int kind = pickKind(random, flavour, model.works.get(s));
+            int[] a = {pickFirst(random, kind, flavour, model), pick(random, 0, 4), pick(random, 0, model.last + 1),
                 pick(random, 0, 4)};
             int got = askDesk(desk, kind, s, a);
             int want = askModel(model, kind, s, a);
             SEEN[kind][Math.min(want + 1, 7)] = true;
+            if ((kind == 4 || kind == 5) && want == 1) {
+                LEFT[kind][a[0]]++;
+            }
+            mostCommits = Math.max(mostCommits, model.commits.size());
             if (got != want) {
                 wrong++;
                 System.out.println("seed " + seed + ", call " + call + ": kind " + kind + " of session " + s + " with "
@@ -270,7 +283,10 @@ public final class SnapshotDeskAgainstModel {
     }
 
     /** Calls that end a transaction are rare, so that levels and snapshots have time to grow. */
-    private static int pickKind(Random random) {
+    private static int pickKind(Random random, int flavour, Work w) {
+        if (flavour != MIXED && random.nextInt(10) < 7) {
+            return flavour == DEEP ? DEEP_KINDS[random.nextInt(DEEP_KINDS.length)] : nextToACommit(w);
+        }
         int kind = random.nextInt(16);
         if (kind >= 6 && kind <= 7 && random.nextInt(3) != 0 || kind == 8 && random.nextInt(30) != 0) {
             return random.nextInt(6);
@@ -278,13 +294,20 @@ public final class SnapshotDeskAgainstModel {
         return kind;
     }
 
+    private static int nextToACommit(Work w) {
+        return w == null ? 0 : w.all.isEmpty() ? 2 : 6;
+    }
+
     private static int pick(Random random, int low, int high) {
         return random.nextInt(40) == 0 ? ODD[random.nextInt(ODD.length)] : low + random.nextInt(high - low + 1);
     }
 
-    private static int pickFirst(Random random, int kind, Model model) {
+    private static int pickFirst(Random random, int kind, int flavour, Model model) {
         if (kind == 0) {
             return pick(random, 0, 1);
+        }
+        if (flavour == DEEP && (kind == 4 || kind == 5)) {
+            return pick(random, random.nextInt(8), 7);
         }
         if (kind == 4 || kind == 5 || kind == 15) {
             return pick(random, 0, 7);
@@ -351,6 +374,16 @@ public final class SnapshotDeskAgainstModel {
                     System.out.println("kind " + kind + " never answered " + answer);
                 }
             }
+        }
+        for (int k = 1; k <= 7; k++) {
+            if (LEFT[4][k] < 1000 || LEFT[5][k] < 1000) {
+                wrong++;
+                System.out.println("level " + k + " was seldom released or gone back to");
+            }
+        }
+        if (mostCommits < 100) {
+            wrong++;
+            System.out.println("no run had more than " + mostCommits + " commits");
         }
     }
 }

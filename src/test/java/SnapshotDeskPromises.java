@@ -6,6 +6,7 @@ import java.lang.reflect.Modifier;
 import java.util.ArrayList;
 import java.util.Arrays;
 import java.util.List;
+import java.util.Set;
 import java.util.TreeMap;
 import java.util.TreeSet;
 
@@ -14,13 +15,17 @@ import java.util.TreeSet;
  * case. Main finds and runs every method whose name begins with "promise".
  *
  * A run is a row of texts "call(arguments)=answer" on a new object, with answers worked out by hand from
- * the document; a boolean counts 1 or 0, and crash() counts 0.
+ * the document; a boolean counts 1 or 0, and crash() counts 0. The document makes no difference between its
+ * six sessions, so each run is made six times, with session s + turn (of 6) in place of session s.
  */
 public final class SnapshotDeskPromises {
     private static final int PROMISES = 17;
     private static final int CALLS_PROMISED = 512;
+    private static final int TOP_LEVEL = 7;
 
     private static final int[] SESSIONS = {0, 1, 2, 3, 4, 5};
+    /** The calls whose first argument is no session. */
+    private static final Set<String> WITHOUT_SESSION = Set.of("crash", "state", "root", "place", "dead");
     private static final int[] NO_SESSIONS = {-1, 6, 7, -6, 8, 256, 65536, Integer.MIN_VALUE, Integer.MAX_VALUE};
     private static final int[] NO_MODES = {-1, 2, 3, 256, 65536, Integer.MIN_VALUE, Integer.MAX_VALUE};
     /** Not given in any run of 512 calls. */
@@ -148,9 +153,9 @@ public final class SnapshotDeskPromises {
     }
 
     private static void promise01_noSessionHasATransaction() {
-        each(SESSIONS, "look(#,0)=-1", "look(#,1)=-1", "look(#,2)=-1", "look(#,3)=-1", "look(#,4)=-1",
-            "statement(#)=-1", "number(#)=-1", "save(#)=-1", "release(#,0)=0", "release(#,1)=0", "back(#,0)=0",
-            "back(#,1)=0", "commit(#)=-1", "abort(#)=0", "sees(#,1,0,0,0)=0", "ending(#,1,0)=-1");
+        run("look(0,0)=-1", "look(0,1)=-1", "look(0,2)=-1", "look(0,3)=-1", "look(0,4)=-1",
+            "statement(0)=-1", "number(0)=-1", "save(0)=-1", "release(0,0)=0", "release(0,1)=0", "back(0,0)=0",
+            "back(0,1)=0", "commit(0)=-1", "abort(0)=0", "sees(0,1,0,0,0)=0", "ending(0,1,0)=-1");
     }
 
     private static void promise01_noVersionIsDead() {
@@ -158,12 +163,12 @@ public final class SnapshotDeskPromises {
     }
 
     private static void promise01_firstNumberAndFirstCommitAreOne() {
-        each(SESSIONS, "begin(#,0)=1", "number(#)=1", "commit(#)=1", "place(1)=1");
+        run("begin(0,0)=1", "number(0)=1", "commit(0)=1", "place(1)=1");
     }
 
     private static void promise01_objectsShareNothing() {
-        Desk one = new Desk();
-        Desk other = new Desk();
+        Desk one = new Desk(0);
+        Desk other = new Desk(0);
         one.ask("begin(0,1)=1", "statement(0)=1", "number(0)=1", "commit(0)=1", "begin(0,1)=1", "save(0)=1");
         other.ask("look(0,0)=-1", "look(0,5)=0", "look(0,6)=0", "state(1)=0", "begin(0,0)=1", "look(0,2)=0",
             "number(0)=1", "abort(0)=1");
@@ -173,21 +178,21 @@ public final class SnapshotDeskPromises {
     // ---- 2: begin
 
     private static void promise02_eachSessionGetsLevel0() {
-        each(SESSIONS, "begin(#,0)=1", "look(#,0)=0", "look(#,2)=0");
-        each(SESSIONS, "begin(#,1)=1", "look(#,0)=1", "look(#,2)=0");
+        run("begin(0,0)=1", "look(0,0)=0", "look(0,2)=0");
+        run("begin(0,1)=1", "look(0,0)=1", "look(0,2)=0");
     }
 
     private static void promise02_commandIs0AtFirst() {
-        each(SESSIONS, "begin(#,1)=1", "look(#,1)=0");
+        run("begin(0,1)=1", "look(0,1)=0");
     }
 
     private static void promise02_level0HasNoNumberYet() {
-        each(SESSIONS, "begin(#,0)=1", "look(#,3)=0", "look(#,5)=0", "state(1)=0");
+        run("begin(0,0)=1", "look(0,3)=0", "look(0,5)=0", "state(1)=0");
     }
 
     private static void promise02_noSnapshotYet() {
-        each(SESSIONS, "begin(#,0)=1", "look(#,4)=-1");
-        each(SESSIONS, "begin(#,1)=1", "look(#,4)=-1");
+        run("begin(0,0)=1", "look(0,4)=-1");
+        run("begin(0,1)=1", "look(0,4)=-1");
     }
 
     private static void promise02_sixSideBySide() {
@@ -211,8 +216,8 @@ public final class SnapshotDeskPromises {
     }
 
     private static void promise02_hasOne() {
-        each(SESSIONS, "begin(#,0)=1", "begin(#,0)=0", "begin(#,1)=0", "look(#,0)=0");
-        each(SESSIONS, "begin(#,1)=1", "begin(#,1)=0", "begin(#,0)=0", "look(#,0)=1");
+        run("begin(0,0)=1", "begin(0,0)=0", "begin(0,1)=0", "look(0,0)=0");
+        run("begin(0,1)=1", "begin(0,1)=0", "begin(0,0)=0", "look(0,0)=1");
         changesNothing("begin(0,0)=0", "begin(0,1)=0", "begin(1,0)=0", "begin(1,1)=0", "begin(2,0)=0", "begin(2,1)=0",
             "begin(5,0)=0", "begin(5,1)=0");
     }
@@ -244,16 +249,17 @@ public final class SnapshotDeskPromises {
     // ---- 3: statement
 
     private static void promise03_commandIsOneMore() {
-        each(SESSIONS, "begin(#,0)=1", "statement(#)=1", "statement(#)=2", "statement(#)=3", "look(#,1)=3");
-        each(SESSIONS, "begin(#,1)=1", "statement(#)=1", "statement(#)=2", "statement(#)=3", "look(#,1)=3");
+        run("begin(0,0)=1", "statement(0)=1", "statement(0)=2", "statement(0)=3", "look(0,1)=3");
+        run("begin(0,1)=1", "statement(0)=1", "statement(0)=2", "statement(0)=3", "look(0,1)=3");
     }
 
     private static void promise03_asManyAsCallsArePromised() {
-        Desk x = new Desk();
-        x.ask("begin(0,0)=1");
+        List<String> rows = new ArrayList<>();
+        add(rows, "begin(0,0)=1");
         for (int command = 1; command < CALLS_PROMISED; command++) {
-            x.ask("statement(0)=" + command);
+            add(rows, "statement(0)=" + command);
         }
+        run(rows);
     }
 
     private static void promise03_otherSessionsKeepTheirCommand() {
@@ -262,7 +268,7 @@ public final class SnapshotDeskPromises {
     }
 
     private static void promise03_noTransaction() {
-        each(SESSIONS, "statement(#)=-1", "look(#,1)=-1", "begin(#,0)=1", "look(#,1)=0", "statement(#)=1");
+        run("statement(0)=-1", "look(0,1)=-1", "begin(0,0)=1", "look(0,1)=0", "statement(0)=1");
         changesNothing("statement(3)=-1", "statement(4)=-1");
     }
 
@@ -317,6 +323,62 @@ public final class SnapshotDeskPromises {
             "look(0,3)=0", "look(0,2)=1", "look(0,5)=0");
     }
 
+    private static void promise03_levelsLeaveCommandAndSnapshotOfEitherMode() {
+        String[] stays = {"look(0,1)=2", "look(0,4)=1"};
+        for (int mode = 0; mode <= 1; mode++) {
+            for (int k = 1; k <= TOP_LEVEL; k++) {
+                List<String> rows = new ArrayList<>();
+                add(rows, "begin(1,0)=1", "number(1)=1", "commit(1)=1", "begin(0," + mode + ")=1", "statement(0)=1",
+                    "statement(0)=2", "begin(1,0)=1", "number(1)=2", "commit(1)=2");
+                addEachDeedOnLevels(rows, k, 3, stays);
+                run(rows);
+            }
+        }
+    }
+
+    private static void promise03_levelsGiveNoSnapshotToEitherMode() {
+        String[] stays = {"look(0,1)=0", "look(0,4)=-1"};
+        for (int mode = 0; mode <= 1; mode++) {
+            for (int k = 1; k <= TOP_LEVEL; k++) {
+                List<String> rows = new ArrayList<>();
+                add(rows, "begin(1,0)=1", "number(1)=1", "commit(1)=1", "begin(0," + mode + ")=1");
+                addEachDeedOnLevels(rows, k, 2, stays);
+                run(rows);
+            }
+        }
+    }
+
+    /** Session 0 saves levels up to the last one, gets numbers, and goes back to level k and releases it. */
+    private static void addEachDeedOnLevels(List<String> rows, int k, int firstNumber, String... behindEach) {
+        for (int level = 1; level <= TOP_LEVEL; level++) {
+            add(rows, "save(0)=" + level);
+            add(rows, behindEach);
+        }
+        add(rows, "number(0)=" + (firstNumber + TOP_LEVEL));
+        add(rows, behindEach);
+        add(rows, "back(0," + k + ")=1");
+        add(rows, behindEach);
+        add(rows, "number(0)=" + (firstNumber + TOP_LEVEL + 1));
+        add(rows, behindEach);
+        add(rows, "release(0," + k + ")=1");
+        add(rows, behindEach);
+    }
+
+    private static void promise03_deedsOfOthersLeaveCommandAndSnapshot() {
+        String[] deeds = {"begin(3,0)=1", "statement(3)=1", "number(3)=3", "save(3)=1", "number(3)=4", "back(3,1)=1",
+            "number(3)=5", "release(3,1)=1", "commit(3)=3", "begin(3,1)=1", "statement(3)=1", "number(3)=6",
+            "statement(3)=2", "abort(3)=1", "begin(3,1)=1", "commit(3)=0"};
+        for (int mode = 0; mode <= 1; mode++) {
+            List<String> rows = new ArrayList<>();
+            add(rows, "begin(3,0)=1", "number(3)=1", "commit(3)=1", "begin(0," + mode + ")=1", "statement(0)=1",
+                "begin(1," + mode + ")=1", "begin(3,0)=1", "number(3)=2", "commit(3)=2");
+            for (String deed : deeds) {
+                add(rows, deed, "look(0,1)=1", "look(0,4)=1", "look(1,1)=0", "look(1,4)=-1");
+            }
+            run(rows);
+        }
+    }
+
     private static void promise03_levelsLeaveCommandAndSnapshot() {
         run("begin(0,1)=1", "statement(0)=1", "begin(2,0)=1", "number(2)=1", "commit(2)=1", "save(0)=1", "look(0,1)=1",
             "number(0)=3", "look(0,1)=1", "back(0,1)=1", "look(0,1)=1", "look(0,4)=0", "statement(0)=2",
@@ -326,7 +388,7 @@ public final class SnapshotDeskPromises {
     // ---- 4: number
 
     private static void promise04_isGivenOnce() {
-        each(SESSIONS, "begin(#,0)=1", "number(#)=1", "number(#)=1", "look(#,3)=1", "look(#,5)=1", "state(2)=0");
+        run("begin(0,0)=1", "number(0)=1", "number(0)=1", "look(0,3)=1", "look(0,5)=1", "state(2)=0");
     }
 
     private static void promise04_levelsBelowFirst() {
@@ -368,7 +430,7 @@ public final class SnapshotDeskPromises {
     }
 
     private static void promise04_noTransaction() {
-        each(SESSIONS, "number(#)=-1", "look(#,5)=0", "state(1)=0", "begin(#,0)=1", "look(#,3)=0", "number(#)=1");
+        run("number(0)=-1", "look(0,5)=0", "state(1)=0", "begin(0,0)=1", "look(0,3)=0", "number(0)=1");
         changesNothing("number(3)=-1", "number(4)=-1");
     }
 
@@ -382,14 +444,66 @@ public final class SnapshotDeskPromises {
         changesNothing(NO_SESSIONS, "number(#)=-1");
     }
 
-    private static void promise04_as512CallsCanGive() {
-        Desk x = new Desk();
-        x.ask("begin(0,0)=1", "number(0)=1", "save(0)=1");
+    private static void promise04_oneAfterTheOtherFor512Calls() {
+        List<String> rows = new ArrayList<>();
+        add(rows, "begin(0,0)=1", "number(0)=1", "save(0)=1");
         for (int n = 2; n <= 250; n++) {
-            x.ask("number(0)=" + n, "back(0,1)=1");
+            add(rows, "number(0)=" + n, "back(0,1)=1");
         }
-        x.ask("look(0,5)=250", "state(250)=3", "state(251)=0", "root(250)=1", "commit(0)=1", "place(1)=1",
+        add(rows, "look(0,5)=250", "state(250)=3", "state(251)=0", "root(250)=1", "commit(0)=1", "place(1)=1",
             "place(250)=0");
+        run(rows);
+    }
+
+    /** Eight numbers with 9 calls, then seven with 8 calls, again and again. */
+    private static List<String> sevenNumbersAgainAndAgain(int times) {
+        List<String> rows = new ArrayList<>();
+        add(rows, "begin(0,0)=1");
+        addSaves(rows, 1, TOP_LEVEL);
+        add(rows, "number(0)=8");
+        for (int i = 1; i <= times; i++) {
+            add(rows, "back(0,1)=1");
+            addSaves(rows, 2, TOP_LEVEL);
+            add(rows, "number(0)=" + (8 + 7 * i));
+        }
+        return rows;
+    }
+
+    private static void promise04_asManyAs512CallsCanGive() {
+        List<String> rows = sevenNumbersAgainAndAgain(62);
+        add(rows, "back(0,1)=1");
+        addSaves(rows, 2, 6);
+        add(rows, "number(0)=448");
+        run(rows);
+    }
+
+    private static void promise04_nearlyAsManyAs512CallsCanGive() {
+        List<String> rows = sevenNumbersAgainAndAgain(61);
+        add(rows, "look(0,5)=435", "state(436)=0", "state(435)=1", "state(428)=3", "root(435)=1", "root(428)=1",
+            "number(0)=435", "commit(0)=1", "place(1)=1", "place(428)=0", "place(429)=1", "place(435)=1");
+        run(rows);
+    }
+
+    private static void promise04_fromBelowOnForEachHeight() {
+        for (int top = 0; top <= TOP_LEVEL; top++) {
+            List<String> rows = levelsUpTo(top);
+            add(rows, "look(0,5)=" + (top + 1));
+            addForNumbers(rows, 1, top + 1, "root", 1);
+            for (int level = top; level >= 1; level--) {
+                add(rows, "look(0,3)=" + (level + 1), "number(0)=" + (level + 1), "release(0," + level + ")=1");
+            }
+            add(rows, "look(0,3)=1", "number(0)=1", "look(0,5)=" + (top + 1));
+            run(rows);
+        }
+    }
+
+    private static void promise04_belongsToTheLevelThatItWasGivenTo() {
+        List<String> rows = levelsUpTo(TOP_LEVEL);
+        for (int level = TOP_LEVEL; level >= 1; level--) {
+            add(rows, "state(" + (level + 1) + ")=1", "back(0," + level + ")=1", "state(" + (level + 1) + ")=3",
+                "state(" + level + ")=1");
+        }
+        run(rows);
     }
 
     private static void promise04_notNumbersEnoughChangesNothing() {
@@ -422,7 +536,7 @@ public final class SnapshotDeskPromises {
     // ---- 5: save
 
     private static void promise05_whichLevelItIs() {
-        each(SESSIONS, "begin(#,0)=1", "save(#)=1", "look(#,2)=1", "save(#)=2", "look(#,2)=2");
+        run("begin(0,0)=1", "save(0)=1", "look(0,2)=1", "save(0)=2", "look(0,2)=2");
     }
 
     private static void promise05_newLevelHasNoNumber() {
@@ -431,8 +545,8 @@ public final class SnapshotDeskPromises {
     }
 
     private static void promise05_hasEight() {
-        each(SESSIONS, "begin(#,0)=1", "save(#)=1", "save(#)=2", "save(#)=3", "save(#)=4", "save(#)=5", "save(#)=6",
-            "save(#)=7", "save(#)=-1", "look(#,2)=7", "save(#)=-1", "look(#,2)=7", "number(#)=8", "look(#,5)=8");
+        run("begin(0,0)=1", "save(0)=1", "save(0)=2", "save(0)=3", "save(0)=4", "save(0)=5", "save(0)=6",
+            "save(0)=7", "save(0)=-1", "look(0,2)=7", "save(0)=-1", "look(0,2)=7", "number(0)=8", "look(0,5)=8");
         changesNothing("save(5)=-1");
     }
 
@@ -447,22 +561,23 @@ public final class SnapshotDeskPromises {
     }
 
     private static void promise05_eachSessionHasItsOwnEight() {
-        Desk x = new Desk();
+        List<String> rows = new ArrayList<>();
         for (int s : SESSIONS) {
-            x.ask("begin(" + s + ",0)=1");
+            add(rows, "begin(" + s + ",0)=1");
         }
-        for (int level = 1; level <= 7; level++) {
+        for (int level = 1; level <= TOP_LEVEL; level++) {
             for (int s : SESSIONS) {
-                x.ask("save(" + s + ")=" + level);
+                add(rows, "save(" + s + ")=" + level);
             }
         }
         for (int s : SESSIONS) {
-            x.ask("save(" + s + ")=-1", "look(" + s + ",2)=7");
+            add(rows, "save(" + s + ")=-1", "look(" + s + ",2)=7");
         }
+        run(rows);
     }
 
     private static void promise05_noTransaction() {
-        each(SESSIONS, "save(#)=-1", "look(#,2)=-1", "begin(#,0)=1", "look(#,2)=0", "save(#)=1");
+        run("save(0)=-1", "look(0,2)=-1", "begin(0,0)=1", "look(0,2)=0", "save(0)=1");
         changesNothing("save(3)=-1", "save(4)=-1");
     }
 
@@ -479,8 +594,8 @@ public final class SnapshotDeskPromises {
     // ---- 6: release
 
     private static void promise06_theTop() {
-        each(SESSIONS, "begin(#,0)=1", "save(#)=1", "number(#)=2", "release(#,1)=1", "look(#,2)=0", "look(#,3)=1",
-            "number(#)=1", "state(1)=1", "state(2)=1");
+        run("begin(0,0)=1", "save(0)=1", "number(0)=2", "release(0,1)=1", "look(0,2)=0", "look(0,3)=1",
+            "number(0)=1", "state(1)=1", "state(2)=1");
     }
 
     private static void promise06_withThoseUponIt() {
@@ -536,8 +651,8 @@ public final class SnapshotDeskPromises {
     }
 
     private static void promise06_level0CantBe() {
-        each(SESSIONS, "begin(#,0)=1", "number(#)=1", "release(#,0)=0", "look(#,0)=0", "look(#,2)=0", "look(#,3)=1",
-            "save(#)=1", "number(#)=2", "release(#,0)=0", "look(#,2)=1", "look(#,3)=2", "commit(#)=1", "place(2)=1");
+        run("begin(0,0)=1", "number(0)=1", "release(0,0)=0", "look(0,0)=0", "look(0,2)=0", "look(0,3)=1",
+            "save(0)=1", "number(0)=2", "release(0,0)=0", "look(0,2)=1", "look(0,3)=2", "commit(0)=1", "place(2)=1");
         changesNothing("release(0,0)=0", "release(1,0)=0", "release(2,0)=0", "release(5,0)=0");
     }
 
@@ -558,8 +673,8 @@ public final class SnapshotDeskPromises {
     }
 
     private static void promise06_noTransaction() {
-        each(SESSIONS, "release(#,0)=0", "release(#,1)=0", "begin(#,0)=1", "save(#)=1", "commit(#)=0", "release(#,1)=0",
-            "release(#,0)=0", "begin(#,0)=1", "release(#,1)=0");
+        run("release(0,0)=0", "release(0,1)=0", "begin(0,0)=1", "save(0)=1", "commit(0)=0", "release(0,1)=0",
+            "release(0,0)=0", "begin(0,0)=1", "release(0,1)=0");
         changesNothing("release(3,0)=0", "release(3,1)=0", "release(4,0)=0", "release(4,1)=0");
     }
 
@@ -572,10 +687,49 @@ public final class SnapshotDeskPromises {
             "look(1,2)=1", "look(1,3)=4", "back(1,1)=1", "state(2)=1", "state(4)=3");
     }
 
+    private static void promise06_eachLevelOfEachHeight() {
+        for (int top = 1; top <= TOP_LEVEL; top++) {
+            for (int k = 1; k <= top; k++) {
+                releaseLevelOfHeight(k, top);
+            }
+        }
+    }
+
+    private static void releaseLevelOfHeight(int k, int top) {
+        int last = top + 1;
+        int lastBehind = last + TOP_LEVEL - k + 1;
+        List<String> rows = levelsUpTo(top);
+        add(rows, "release(0," + k + ")=1", "look(0,2)=" + (k - 1), "look(0,3)=" + k, "number(0)=" + k);
+        addForNumbers(rows, 1, last, "state", 1);
+        addLevels(rows, k, TOP_LEVEL);
+        add(rows, "save(0)=-1", "number(0)=" + lastBehind, "back(0," + k + ")=1");
+        addForNumbers(rows, 1, last, "state", 1);
+        addForNumbers(rows, last + 1, lastBehind, "state", 3);
+        if (k > 1) {
+            add(rows, "back(0," + (k - 1) + ")=1");
+            addForNumbers(rows, 1, k - 1, "state", 1);
+            addForNumbers(rows, k, last, "state", 3);
+        }
+        add(rows, "commit(0)=1");
+        addForNumbers(rows, 1, k == 1 ? last : k - 1, "place", 1);
+        run(rows);
+    }
+
+    private static void promise06_oneLevelAfterTheOther() {
+        List<String> rows = levelsUpTo(TOP_LEVEL);
+        for (int k = TOP_LEVEL; k >= 2; k--) {
+            add(rows, "release(0," + k + ")=1", "look(0,2)=" + (k - 1), "look(0,3)=" + k);
+        }
+        addForNumbers(rows, 1, 8, "state", 1);
+        add(rows, "back(0,1)=1", "state(1)=1");
+        addForNumbers(rows, 2, 8, "state", 3);
+        run(rows);
+    }
+
     // ---- 7: back
 
     private static void promise07_toTheTop() {
-        each(SESSIONS, "begin(#,0)=1", "save(#)=1", "number(#)=2", "back(#,1)=1", "look(#,2)=1", "look(#,3)=0",
+        run("begin(0,0)=1", "save(0)=1", "number(0)=2", "back(0,1)=1", "look(0,2)=1", "look(0,3)=0",
             "state(1)=1", "state(2)=3");
     }
 
@@ -628,8 +782,8 @@ public final class SnapshotDeskPromises {
     }
 
     private static void promise07_level0CantBe() {
-        each(SESSIONS, "begin(#,0)=1", "number(#)=1", "back(#,0)=0", "state(1)=1", "look(#,3)=1", "save(#)=1",
-            "number(#)=2", "back(#,0)=0", "state(1)=1", "state(2)=1", "look(#,2)=1", "look(#,3)=2");
+        run("begin(0,0)=1", "number(0)=1", "back(0,0)=0", "state(1)=1", "look(0,3)=1", "save(0)=1",
+            "number(0)=2", "back(0,0)=0", "state(1)=1", "state(2)=1", "look(0,2)=1", "look(0,3)=2");
         changesNothing("back(0,0)=0", "back(1,0)=0", "back(2,0)=0", "back(5,0)=0");
     }
 
@@ -650,8 +804,8 @@ public final class SnapshotDeskPromises {
     }
 
     private static void promise07_noTransaction() {
-        each(SESSIONS, "back(#,0)=0", "back(#,1)=0", "begin(#,0)=1", "save(#)=1", "number(#)=2", "commit(#)=1",
-            "back(#,1)=0", "back(#,0)=0", "state(1)=2", "state(2)=2");
+        run("back(0,0)=0", "back(0,1)=0", "begin(0,0)=1", "save(0)=1", "number(0)=2", "commit(0)=1",
+            "back(0,1)=0", "back(0,0)=0", "state(1)=2", "state(2)=2");
         changesNothing("back(3,0)=0", "back(3,1)=0", "back(4,0)=0", "back(4,1)=0");
     }
 
@@ -671,6 +825,31 @@ public final class SnapshotDeskPromises {
             "state(1)=2", "state(2)=2", "place(2)=1");
     }
 
+    private static void promise07_eachLevelOfEachHeight() {
+        for (int top = 1; top <= TOP_LEVEL; top++) {
+            for (int k = 1; k <= top; k++) {
+                goBackToLevelOfHeight(k, top);
+            }
+        }
+    }
+
+    private static void goBackToLevelOfHeight(int k, int top) {
+        int last = top + 1;
+        int lastBehind = last + TOP_LEVEL - k + 1;
+        List<String> rows = levelsUpTo(top);
+        add(rows, "back(0," + k + ")=1", "look(0,2)=" + k, "look(0,3)=0");
+        addForNumbers(rows, 1, k, "state", 1);
+        addForNumbers(rows, k + 1, last, "state", 3);
+        addLevels(rows, k + 1, TOP_LEVEL);
+        add(rows, "save(0)=-1", "number(0)=" + lastBehind);
+        addForNumbers(rows, last + 1, lastBehind, "root", 1);
+        add(rows, "commit(0)=1");
+        addForNumbers(rows, 1, k, "place", 1);
+        addForNumbers(rows, k + 1, last, "place", 0);
+        addForNumbers(rows, last + 1, lastBehind, "place", 1);
+        run(rows);
+    }
+
     // ---- 8: commit
 
     private static void promise08_whichCommitThisWas() {
@@ -678,9 +857,33 @@ public final class SnapshotDeskPromises {
             "begin(0,1)=1", "number(0)=3", "commit(0)=3", "place(1)=2", "place(2)=1", "place(3)=3");
     }
 
+    private static void promise08_asManyAs512CallsCanMake() {
+        List<String> rows = commitsOneAfterTheOther(170);
+        add(rows, "look(0,6)=170", "place(170)=170");
+        run(rows);
+    }
+
+    private static void promise08_manyCommitsAndASnapshotOfThem() {
+        List<String> rows = commitsOneAfterTheOther(150);
+        add(rows, "begin(1,1)=1", "statement(1)=1", "look(1,4)=150", "sees(1,150,0,0,0)=1", "sees(1,127,0,0,0)=1",
+            "sees(1,128,0,0,0)=1", "sees(1,1,0,0,0)=1", "dead(1,150)=1", "begin(0,0)=1", "number(0)=151",
+            "commit(0)=151", "sees(1,151,0,0,0)=0", "sees(1,150,0,151,0)=1", "ending(1,150,0)=4", "ending(1,151,0)=5",
+            "dead(150,151)=0", "place(1)=1", "place(127)=127", "place(128)=128", "place(150)=150", "place(151)=151",
+            "look(0,6)=151", "statement(1)=2", "look(1,4)=150");
+        run(rows);
+    }
+
+    private static List<String> commitsOneAfterTheOther(int count) {
+        List<String> rows = new ArrayList<>();
+        for (int c = 1; c <= count; c++) {
+            add(rows, "begin(0,0)=1", "number(0)=" + c, "commit(0)=" + c);
+        }
+        return rows;
+    }
+
     private static void promise08_eachSession() {
-        each(SESSIONS, "begin(#,0)=1", "save(#)=1", "number(#)=2", "commit(#)=1", "state(1)=2", "state(2)=2",
-            "look(#,0)=-1", "look(#,6)=1");
+        run("begin(0,0)=1", "save(0)=1", "number(0)=2", "commit(0)=1", "state(1)=2", "state(2)=2",
+            "look(0,0)=-1", "look(0,6)=1");
     }
 
     private static void promise08_allLevels() {
@@ -698,7 +901,7 @@ public final class SnapshotDeskPromises {
     }
 
     private static void promise08_noRunningNumbers() {
-        each(SESSIONS, "begin(#,0)=1", "commit(#)=0", "look(#,6)=0", "look(#,0)=-1", "commit(#)=-1", "begin(#,0)=1");
+        run("begin(0,0)=1", "commit(0)=0", "look(0,6)=0", "look(0,0)=-1", "commit(0)=-1", "begin(0,0)=1");
         run("begin(0,1)=1", "statement(0)=1", "save(0)=1", "commit(0)=0", "look(0,6)=0", "look(0,5)=0", "look(0,2)=-1");
     }
 
@@ -722,8 +925,8 @@ public final class SnapshotDeskPromises {
     }
 
     private static void promise08_noTransaction() {
-        each(SESSIONS, "commit(#)=-1", "look(#,6)=0", "begin(#,0)=1", "number(#)=1", "commit(#)=1", "commit(#)=-1",
-            "look(#,6)=1", "place(1)=1");
+        run("commit(0)=-1", "look(0,6)=0", "begin(0,0)=1", "number(0)=1", "commit(0)=1", "commit(0)=-1",
+            "look(0,6)=1", "place(1)=1");
         changesNothing("commit(3)=-1", "commit(4)=-1");
     }
 
@@ -749,8 +952,8 @@ public final class SnapshotDeskPromises {
     // ---- 9: abort
 
     private static void promise09_allLevels() {
-        each(SESSIONS, "begin(#,0)=1", "save(#)=1", "save(#)=2", "number(#)=3", "abort(#)=1", "state(1)=3",
-            "state(2)=3", "state(3)=3", "look(#,0)=-1", "look(#,5)=3");
+        run("begin(0,0)=1", "save(0)=1", "save(0)=2", "number(0)=3", "abort(0)=1", "state(1)=3",
+            "state(2)=3", "state(3)=3", "look(0,0)=-1", "look(0,5)=3");
     }
 
     private static void promise09_isNoCommit() {
@@ -759,7 +962,7 @@ public final class SnapshotDeskPromises {
     }
 
     private static void promise09_withoutNumbers() {
-        each(SESSIONS, "begin(#,1)=1", "abort(#)=1", "look(#,0)=-1", "abort(#)=0", "begin(#,0)=1", "look(#,0)=0");
+        run("begin(0,1)=1", "abort(0)=1", "look(0,0)=-1", "abort(0)=0", "begin(0,0)=1", "look(0,0)=0");
     }
 
     private static void promise09_withoutNumbersChangesOnlyItsSession() {
@@ -772,7 +975,7 @@ public final class SnapshotDeskPromises {
     }
 
     private static void promise09_noTransaction() {
-        each(SESSIONS, "abort(#)=0", "begin(#,0)=1", "number(#)=1", "abort(#)=1", "abort(#)=0", "state(1)=3");
+        run("abort(0)=0", "begin(0,0)=1", "number(0)=1", "abort(0)=1", "abort(0)=0", "state(1)=3");
         changesNothing("abort(3)=0", "abort(4)=0");
     }
 
@@ -804,25 +1007,26 @@ public final class SnapshotDeskPromises {
     // ---- 10: crash
 
     private static void promise10_allThatRunsIsAborted() {
-        Desk x = new Desk();
+        List<String> rows = new ArrayList<>();
         for (int s : SESSIONS) {
-            x.ask("begin(" + s + ",0)=1", "save(" + s + ")=1", "number(" + s + ")=" + (2 * s + 2));
+            add(rows, "begin(" + s + ",0)=1", "save(" + s + ")=1", "number(" + s + ")=" + (2 * s + 2));
         }
-        x.ask("crash()=0");
-        for (int n = 1; n <= 12; n++) {
-            x.ask("state(" + n + ")=3", "place(" + n + ")=0");
-        }
+        add(rows, "crash()=0");
+        addForNumbers(rows, 1, 12, "state", 3);
+        addForNumbers(rows, 1, 12, "place", 0);
+        run(rows);
     }
 
     private static void promise10_noSessionHasATransaction() {
-        Desk x = new Desk();
+        List<String> rows = new ArrayList<>();
         for (int s : SESSIONS) {
-            x.ask("begin(" + s + "," + s % 2 + ")=1", "statement(" + s + ")=1");
+            add(rows, "begin(" + s + "," + s % 2 + ")=1", "statement(" + s + ")=1");
         }
-        x.ask("crash()=0");
+        add(rows, "crash()=0");
         for (int s : SESSIONS) {
-            x.ask("look(" + s + ",0)=-1", "look(" + s + ",4)=-1", "commit(" + s + ")=-1", "abort(" + s + ")=0");
+            add(rows, "look(" + s + ",0)=-1", "look(" + s + ",4)=-1", "commit(" + s + ")=-1", "abort(" + s + ")=0");
         }
+        run(rows);
     }
 
     private static void promise10_numbersGoOn() {
@@ -856,9 +1060,9 @@ public final class SnapshotDeskPromises {
     }
 
     private static void promise10_transactionsBehindItAreNew() {
-        each(SESSIONS, "begin(#,1)=1", "statement(#)=1", "save(#)=1", "number(#)=2", "crash()=0", "begin(#,0)=1",
-            "look(#,0)=0", "look(#,1)=0", "look(#,2)=0", "look(#,3)=0", "look(#,4)=-1", "statement(#)=1",
-            "sees(#,1,0,0,0)=0", "ending(#,1,0)=0");
+        run("begin(0,1)=1", "statement(0)=1", "save(0)=1", "number(0)=2", "crash()=0", "begin(0,0)=1",
+            "look(0,0)=0", "look(0,1)=0", "look(0,2)=0", "look(0,3)=0", "look(0,4)=-1", "statement(0)=1",
+            "sees(0,1,0,0,0)=0", "ending(0,1,0)=0");
     }
 
     // ---- 11: state
@@ -903,7 +1107,7 @@ public final class SnapshotDeskPromises {
     }
 
     private static void promise12_itself() {
-        each(SESSIONS, "begin(#,0)=1", "number(#)=1", "root(1)=1", "commit(#)=1", "begin(#,0)=1", "number(#)=2",
+        run("begin(0,0)=1", "number(0)=1", "root(1)=1", "commit(0)=1", "begin(0,0)=1", "number(0)=2",
             "root(2)=2", "root(1)=1");
     }
 
@@ -960,8 +1164,8 @@ public final class SnapshotDeskPromises {
     // ---- 14: sees
 
     private static void promise14_noTransaction() {
-        each(SESSIONS, "begin(#,0)=1", "statement(#)=1", "number(#)=1", "commit(#)=1", "sees(#,1,0,0,0)=0",
-            "sees(#,1,-1,0,0)=0");
+        run("begin(0,0)=1", "statement(0)=1", "number(0)=1", "commit(0)=1", "sees(0,1,0,0,0)=0",
+            "sees(0,1,-1,0,0)=0");
         changesNothing("sees(3,1,0,0,0)=0", "sees(4,1,0,0,0)=0");
     }
 
@@ -1104,8 +1308,8 @@ public final class SnapshotDeskPromises {
     // ---- 15: ending
 
     private static void promise15_noTransaction() {
-        each(SESSIONS, "ending(#,0,0)=-1", "begin(#,0)=1", "statement(#)=1", "number(#)=1", "commit(#)=1",
-            "ending(#,1,0)=-1", "ending(#,0,0)=-1");
+        run("ending(0,0,0)=-1", "begin(0,0)=1", "statement(0)=1", "number(0)=1", "commit(0)=1",
+            "ending(0,1,0)=-1", "ending(0,0,0)=-1");
         changesNothing("ending(3,1,0)=-1", "ending(4,1,0)=-1", "ending(4,0,0)=-1");
     }
 
@@ -1274,25 +1478,25 @@ public final class SnapshotDeskPromises {
     // ---- 17: look
 
     private static void promise17_mode() {
-        each(SESSIONS, "begin(#,0)=1", "look(#,0)=0", "commit(#)=0", "begin(#,1)=1", "look(#,0)=1");
+        run("begin(0,0)=1", "look(0,0)=0", "commit(0)=0", "begin(0,1)=1", "look(0,0)=1");
     }
 
     private static void promise17_command() {
-        each(SESSIONS, "begin(#,0)=1", "look(#,1)=0", "statement(#)=1", "look(#,1)=1", "statement(#)=2", "look(#,1)=2");
+        run("begin(0,0)=1", "look(0,1)=0", "statement(0)=1", "look(0,1)=1", "statement(0)=2", "look(0,1)=2");
     }
 
     private static void promise17_levelOnTop() {
-        each(SESSIONS, "begin(#,0)=1", "look(#,2)=0", "save(#)=1", "look(#,2)=1", "save(#)=2", "look(#,2)=2",
-            "back(#,1)=1", "look(#,2)=1", "release(#,1)=1", "look(#,2)=0");
+        run("begin(0,0)=1", "look(0,2)=0", "save(0)=1", "look(0,2)=1", "save(0)=2", "look(0,2)=2",
+            "back(0,1)=1", "look(0,2)=1", "release(0,1)=1", "look(0,2)=0");
     }
 
     private static void promise17_itsNumber() {
-        each(SESSIONS, "begin(#,0)=1", "save(#)=1", "number(#)=2", "look(#,3)=2", "release(#,1)=1", "look(#,3)=1");
+        run("begin(0,0)=1", "save(0)=1", "number(0)=2", "look(0,3)=2", "release(0,1)=1", "look(0,3)=1");
     }
 
     private static void promise17_itsNumber0ForNone() {
-        each(SESSIONS, "begin(#,0)=1", "look(#,3)=0", "number(#)=1", "save(#)=1", "look(#,3)=0", "number(#)=2",
-            "back(#,1)=1", "look(#,3)=0", "look(#,3)=0", "look(#,5)=2");
+        run("begin(0,0)=1", "look(0,3)=0", "number(0)=1", "save(0)=1", "look(0,3)=0", "number(0)=2",
+            "back(0,1)=1", "look(0,3)=0", "look(0,3)=0", "look(0,5)=2");
         changesNothing("look(0,3)=0", "look(1,3)=0", "look(2,3)=0");
     }
 
@@ -1302,14 +1506,14 @@ public final class SnapshotDeskPromises {
     }
 
     private static void promise17_withoutASnapshot() {
-        each(SESSIONS, "begin(#,0)=1", "look(#,4)=-1", "number(#)=1", "save(#)=1", "look(#,4)=-1", "statement(#)=1",
-            "look(#,4)=0");
+        run("begin(0,0)=1", "look(0,4)=-1", "number(0)=1", "save(0)=1", "look(0,4)=-1", "statement(0)=1",
+            "look(0,4)=0");
         changesNothing("look(2,4)=-1", "look(5,4)=-1");
     }
 
     private static void promise17_noTransaction() {
-        each(SESSIONS, "begin(#,1)=1", "statement(#)=1", "number(#)=1", "commit(#)=1", "look(#,0)=-1", "look(#,1)=-1",
-            "look(#,2)=-1", "look(#,3)=-1", "look(#,4)=-1");
+        run("begin(0,1)=1", "statement(0)=1", "number(0)=1", "commit(0)=1", "look(0,0)=-1", "look(0,1)=-1",
+            "look(0,2)=-1", "look(0,3)=-1", "look(0,4)=-1");
         changesNothing("look(3,0)=-1", "look(3,1)=-1", "look(3,2)=-1", "look(3,3)=-1", "look(3,4)=-1", "look(4,0)=-1");
     }
 
@@ -1347,7 +1551,45 @@ public final class SnapshotDeskPromises {
     // ---- how a run is made
 
     private static void run(String... rows) {
-        new Desk().ask(rows);
+        for (int turn : SESSIONS) {
+            new Desk(turn).ask(rows);
+        }
+    }
+
+    private static void run(List<String> rows) {
+        run(rows.toArray(new String[0]));
+    }
+
+    private static void add(List<String> rows, String... more) {
+        rows.addAll(Arrays.asList(more));
+    }
+
+    /** Session 0 with the levels 0 to top, which have the numbers 1 to top + 1. */
+    private static List<String> levelsUpTo(int top) {
+        List<String> rows = new ArrayList<>();
+        add(rows, "begin(0,0)=1");
+        addLevels(rows, 1, top);
+        add(rows, "number(0)=" + (top + 1));
+        return rows;
+    }
+
+    private static void addSaves(List<String> rows, int first, int last) {
+        for (int level = first; level <= last; level++) {
+            add(rows, "save(0)=" + level);
+        }
+    }
+
+    /** New levels from first to last, each of which has no number yet. */
+    private static void addLevels(List<String> rows, int first, int last) {
+        for (int level = first; level <= last; level++) {
+            add(rows, "save(0)=" + level, "look(0,3)=0");
+        }
+    }
+
+    private static void addForNumbers(List<String> rows, int first, int last, String question, int answer) {
+        for (int n = first; n <= last; n++) {
+            add(rows, question + "(" + n + ")=" + answer);
+        }
     }
 
     /** The same run for each value, which stands where the rows have #. */
@@ -1379,12 +1621,19 @@ public final class SnapshotDeskPromises {
 
     /** With these rows and without them, the scene answers the same to all questions and to all deeds. */
     private static void changeNothingTogether(String... rows) {
-        new Desk().ask(SCENE).ask(rows).ask(SCENE_TAKEN_APART);
-        List<String> due = answersToAllQuestions(new Desk().ask(SCENE));
-        List<String> got = answersToAllQuestions(new Desk().ask(SCENE).ask(rows));
+        for (int turn : SESSIONS) {
+            changeNothingTogether(turn, rows);
+        }
+    }
+
+    private static void changeNothingTogether(int turn, String... rows) {
+        new Desk(turn).ask(SCENE).ask(rows).ask(SCENE_TAKEN_APART);
+        List<String> due = answersToAllQuestions(new Desk(turn).ask(SCENE));
+        List<String> got = answersToAllQuestions(new Desk(turn).ask(SCENE).ask(rows));
         for (int i = 0; i < due.size(); i++) {
             if (!got.get(i).equals(due.get(i))) {
-                fail("behind " + String.join(", ", rows) + ": " + got.get(i) + ", without " + due.get(i));
+                fail("turn " + turn + ", behind " + String.join(", ", rows) + ": " + got.get(i) + ", without "
+                    + due.get(i));
             }
         }
     }
@@ -1416,7 +1665,7 @@ public final class SnapshotDeskPromises {
      * with this object hold the program to its limit, not to a promise.
      */
     private static Desk withNumbersGiven(int count) {
-        Desk x = new Desk();
+        Desk x = new Desk(0);
         for (int i = 0; i < count; i++) {
             x.desk.begin(0, 0);
             x.desk.number(0);
@@ -1427,7 +1676,12 @@ public final class SnapshotDeskPromises {
 
     private static final class Desk {
         final SnapshotDesk desk = new SnapshotDesk();
+        final int turn;
         int calls = 0;
+
+        Desk(int turn) {
+            this.turn = turn;
+        }
 
         Desk ask(String... rows) {
             for (String row : rows) {
@@ -1435,7 +1689,7 @@ public final class SnapshotDeskPromises {
                 String due = parts[0] + "=" + parts[1];
                 String got = answer(parts[0]);
                 if (!got.equals(due)) {
-                    fail(got + ", due is " + parts[1]);
+                    fail("turn " + turn + ", call " + calls + ": " + got + ", due is " + parts[1]);
                 }
             }
             return this;
@@ -1451,7 +1705,14 @@ public final class SnapshotDeskPromises {
             for (int i = 0; i < a.length; i++) {
                 a[i] = Integer.parseInt(parts[i + 1]);
             }
+            if (!WITHOUT_SESSION.contains(parts[0])) {
+                a[0] = turned(a[0]);
+            }
             return call + "=" + call(desk, parts[0], a);
+        }
+
+        int turned(int s) {
+            return s >= 0 && s < SESSIONS.length ? (s + turn) % SESSIONS.length : s;
         }
     }
 
