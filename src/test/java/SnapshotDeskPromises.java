@@ -14,9 +14,10 @@ import java.util.TreeSet;
  * A test for each sentence of the document that tells a case, named after the promise's number and the
  * case. Main finds and runs every method whose name begins with "promise".
  *
- * A run is a row of texts "call(arguments)=answer" on a new object, with answers worked out by hand from
+ * A run is a row of texts "call(arguments)=answer" on a new object, with answers worked out from
  * the document; a boolean counts 1 or 0, and crash() counts 0. The document makes no difference between its
- * six sessions, so each run is made six times, with session s + turn (of 6) in place of session s.
+ * six sessions, so run(..) makes each row six times, with session s + turn (of 6) in place of
+ * session s.
  */
 public final class SnapshotDeskPromises {
     private static final int PROMISES = 17;
